@@ -1116,9 +1116,10 @@ public final class LetsIn {
         }
     }
 
-    /** Reads THE TAPE into a draft, TOKEN by TOKEN, until the first FAULT; what reads answers whether there was none. */
+    /** Reads THE TAPE into a draft, TOKEN by TOKEN, until the first FAULT; each part answers whether there was none. */
     private static final class Reader {
-        private static final int NO_TOKEN = 1, NOT_THERE = 2, OUT_OF_BOUNDS = 3, NOT_AGAIN = 4, TOO_MANY = 5, NOBODY = 6;
+        private static final int NO_TOKEN = 1, NOT_THERE = 2, OUT_OF_BOUNDS = 3;
+        private static final int NOT_AGAIN = 4, TOO_MANY = 5, NOBODY = 6;
         private static final int NAME = 1, NUMBER = 2, STOP = 3, END = 4;
 
         final Town draft = new Town();

@@ -12,6 +12,8 @@ public final class AdviceTest {
         test.promise28Bounds();
         test.promise29();
         test.promise29Coins();
+        test.promise29Then();
+        test.promise29Bounds();
         test.wrongNumbers();
         test.check.finish();
     }
@@ -70,6 +72,10 @@ public final class AdviceTest {
         // a debt that is nothing is in no set
         LetsIn y = Check.townOf("one plain 0 5 0 0;one plain 1 1 0 9;one plain 2 2 0 0;debt 1 2 9;");
         clear(y, 1, 5, 9, 4);
+        // the first ONE is owed, one coin
+        LetsIn z = Check.townOf("one plain 2 1 0 0;one plain 1 1 0 1;one plain 0 5 0 0;debt 1 0 1;");
+        clear(z, 1, 6, 0, 0);
+        clear(z, 1, 5, 1, 1);
     }
 
     private void promise27Payers() {
@@ -119,6 +125,9 @@ public final class AdviceTest {
         door(w, 2, 3, 0, 1);
         LetsIn v = Check.townOf("one plain 0 5 0 0;one son 3 1 4 0 0;one plain 2 2 0 9;one plain 50 1 0 0;");
         door(v, 2, 3, 1, 1);
+        // from one MINUTE to none
+        LetsIn u = Check.townOf("one plain 0 2 0 0;one plain 1 1 0 0;one plain 2 2 0 1;");
+        door(u, 2, 0, 1, 1);
     }
 
     private void promise28Bounds() {
@@ -159,6 +168,44 @@ public final class AdviceTest {
         // who owes the debt is another one than he himself, and so is who is owed
         LetsIn y = Check.townOf("one plain 0 5 0 9;one plain 1 4 0 9;one plain 2 2 0 9;debt 2 1 3;");
         buy(y, 2, -4, -4, -4);
+        y.debt(2, 1, 0);
+        y.debt(1, 2, 3);
+        check.due("2 passes 1, who could pay", 6, y.waits(1));
+        clear(y, 1, 5, 3, 4);
+        buy(y, 1, -4, -4, -4);
+        // the first ONE owes it, one coin
+        LetsIn z = Check.townOf("one plain 1 4 0 9;one plain 0 5 0 9;one plain 2 2 0 1;debt 0 1 1;");
+        buy(z, 2, 3, 1, 1);
+    }
+
+    private void promise29Then() {
+        // he has the coins no more: a payer who then can not pay 3
+        LetsIn x = Check.townOf("one plain 0 5 0 0;one plain 1 4 0 0;one payer 2 2 0 9;one plain 3 1 0 0;"
+                + "debt 1 0 9;debt 1 3 50;debt 2 3 5;");
+        check.due("now 2 pays 3", 7, x.waits(2));
+        buy(x, 2, 4, 10, 9);
+        // it is owed no more to whom it was owed: 3 stops behind 1
+        LetsIn y = Check.townOf("one plain 0 5 0 0;one plain 1 4 0 0;one plain 2 2 0 9;one plain 3 1 0 0;"
+                + "debt 1 3 5;debt 2 3 7;");
+        check.due("now", 8, y.waits(2));
+        buy(y, 2, 3, 13, 5);
+    }
+
+    private void promise29Bounds() {
+        LetsIn x = Check.townOf("law 1;one plain 0 5 0 9;one plain 1 4 0 50;one plain 2 2 0 50;");
+        // 1 owes 2 990 by ten debts that are sold, 2 owes 1 as much and 5 more
+        for (int i = 0; i < 10; i++) {
+            x.debt(1, 0, 99);
+            x.sell(1, 0, 2);
+            x.debt(2, 0, 99);
+            x.sell(2, 0, 1);
+        }
+        x.debt(2, 0, 5);
+        x.sell(2, 0, 1);
+        x.debt(1, 0, 9);
+        buy(x, 2, 3, 10, 9);
+        x.debt(1, 0, 10);
+        buy(x, 2, -4, -4, -4);
     }
 
     private void promise29Coins() {

@@ -7,6 +7,7 @@ public final class OrderTest {
     public static void main(String[] args) {
         OrderTest test = new OrderTest();
         test.promise23();
+        test.promise23Seven();
         test.promise23Payers();
         test.promise24();
         test.promise24Rings();
@@ -62,6 +63,16 @@ public final class OrderTest {
         x.debt(0, 2, 0);
         x.debt(0, 1, 1);
         row(x, 3, 1, 0, 2);
+    }
+
+    private void promise23Seven() {
+        LetsIn x = Check.townOf("one plain 6 1 1 1;one plain 5 1 1 1;one plain 4 1 1 1;one plain 3 1 1 1;"
+                + "one plain 2 1 1 1;one plain 1 1 1 1;one plain 0 1 1 1;");
+        row(x, 6, 5, 4, 3, 2, 1, 0);
+        for (int a = 1; a < 7; a++) {
+            x.debt(a, 0, 1);
+        }
+        row(x, 0, 6, 5, 4, 3, 2, 1);
     }
 
     private void promise23Payers() {
@@ -152,5 +163,20 @@ public final class OrderTest {
         LetsIn free = Check.townOf("one plain 0 9 0 1;one plain 0 9 0 1;debt 0 1 1;");
         check.due("costs nothing", 0, free.shop(0));
         shop(free, 1, 0);
+        LetsIn first = Check.townOf("one plain 0 1 5 1;one plain 0 9 0 1;");
+        check.due("costs nothing", 0, first.shop(0));
+        shop(first, 0, 1);
+        LetsIn seven = Check.townOf("one plain 0 7 1 1;one plain 0 6 2 1;one plain 0 5 3 1;one plain 0 4 4 1;"
+                + "one plain 0 3 5 1;one plain 0 2 6 1;one plain 0 1 7 1;");
+        check.due("seven", 6 * 1 + 5 * 3 + 4 * 6 + 3 * 10 + 2 * 15 + 1 * 21, seven.shop(0));
+        shop(seven, 6, 5, 4, 3, 2, 1, 0);
+        // a lesser town behind a greater one
+        Check.tell(first, "one plain 0 9 9 1;one plain 0 9 9 1;one plain 0 9 9 1;");
+        check.due("three", 81 + 162, first.shop(0));
+        Check.tell(first, "one plain 0 9 9 1;one plain 0 9 9 1;");
+        check.due("two", 81, first.shop(0));
+        check.due("two", 2, first.order(0));
+        Check.tell(first, "");
+        check.due("nobody", 0, first.shop(0));
     }
 }

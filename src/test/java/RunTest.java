@@ -26,15 +26,15 @@ public final class RunTest {
     }
 
     private void row(LetsIn x, int t, int... want) {
-        for (int i = 0; i < 7; i++) {
-            check.due("row(" + t + ", " + i + ")", i < want.length ? want[i] : -4, x.row(t, i));
-        }
         for (int p = 0; p < x.rule(0); p++) {
             int place = -4;
             for (int i = 0; i < want.length; i++) {
                 place = want[i] == p ? i : place;
             }
             check.due("place(" + p + ", " + t + ")", place, x.place(p, t));
+        }
+        for (int i = 0; i < 7; i++) {
+            check.due("row(" + t + ", " + i + ")", i < want.length ? want[i] : -4, x.row(t, i));
         }
     }
 
@@ -202,6 +202,8 @@ public final class RunTest {
         // by the coins that they have, not by those behind the run
         LetsIn y = Check.townOf("one plain 0 5 0 50;one payer 1 2 0 10;one plain 2 3 0 0;debt 1 2 10;");
         check.due("1 has 10 and is not poor", 5, y.poor(0, 0));
+        y.comes(0, 2);
+        check.due("the first one, too", 1, y.poor(50, 0) - y.poor(49, 0));
     }
 
     private void promise34() {

@@ -91,6 +91,8 @@ public final class SeenTest {
         check.due("nobody is seen", -4, x.judge());
         see(x, 0, 1, 2, 3);
         check.due("as they came", -4, x.judge());
+        see(x, 3, 1, 2, 0);
+        check.due("at the front", 0, x.judge());
         see(x, 0, 2);
         check.due("just these", -4, x.judge());
         see(x, 0, 2, 1);

@@ -69,6 +69,19 @@ public final class SheetTest {
         check.due("what is refused changes nothing", 0, x.count(5));
         check.due("still nothing", -14, x.sheet(1, 2, -1));
         check.due("still nothing", -11, x.lay(1, 0, 0));
+        LetsIn y = Check.townOf(THREE + "debt 0 1 5;");
+        y.sheet(1, 0, 3);
+        lay(y, 1, 2, 1, 50);
+        y.sheet(1, 0, 3);
+        check.due("its cells are 0: 0 would owe himself", -20, y.read(1, 0, 0, 1));
+        y.lay(1, 1, 1);
+        check.due("read", 1, y.read(1, 0, 0, 1));
+        check.due("its cells are 0", 0, y.owes(0, 1));
+        check.due("its cells are 0", 0, y.owes(2, 1));
+        y.sheet(1, 1, 3);
+        y.lay(1, 1, 1);
+        check.due("another lane now", 0, y.read(1, 0, 0, 1));
+        check.due("cast", 3, y.torn());
     }
 
     private void promise38() {
@@ -219,6 +232,8 @@ public final class SheetTest {
         LetsIn x = Check.townOf(THREE + "debt 0 1 5;debt 1 0 6;debt 2 1 99;");
         check.due("debts", 3, x.count(0));
         check.due("summed", 110, x.count(1));
+        x.debt(1, 0, 1);
+        check.due("debts", 3, x.count(0));
         x.debt(1, 0, 0);
         check.due("debts", 2, x.count(0));
         check.due("summed", 104, x.count(1));

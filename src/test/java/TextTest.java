@@ -13,6 +13,8 @@ public final class TextTest {
         test.promise4();
         test.promise4Faults();
         test.promise4Stays();
+        test.promise4Cut();
+        test.sevenOnes();
         test.promise5();
         test.promise6and7();
         test.promise8();
@@ -123,10 +125,34 @@ public final class TextTest {
         faulty(1, 5, "law 1-");
         faulty(1, 0, "123");
         faulty(1, 6, "law 1;\u0000");
+        for (char sign : new char[] {'/', ':', '`', '{', 'A', 'Z', '\n', 127, 128, 255}) {
+            faulty(1, 0, sign + ";");
+        }
+        faulty(1, 4, "one $");
+        faulty(1, 8, "one son $ 1 1 1 1;");
+        faulty(1, 10, "one plain $ 1 1 1;");
+        faulty(1, 12, "one plain 1 $ 1 1;");
+        faulty(1, 14, "one plain 1 1 $ 1;");
+        faulty(1, 16, "one plain 1 1 1 $;");
+        faulty(1, 17, "one plain 1 1 1 1$");
+        faulty(1, 4, "law $;");
+        faulty(1, 9, "counters $;");
+        faulty(1, 10, "counters 1$");
+        faulty(1, 5, "debt $ 1 1;");
+        faulty(1, 7, "debt 0 $ 1;");
+        faulty(1, 9, "debt 0 1 $;");
+        faulty(1, 10, "debt 0 1 1$");
         // 2: what can not stand there
         faulty(2, 0, ";");
         faulty(2, 0, "7");
         faulty(2, 0, "laws 1;");
+        faulty(2, 0, "a");
+        faulty(2, 0, "z");
+        faulty(2, 0, "0");
+        faulty(2, 0, "99;");
+        faulty(2, 0, "caw 1;");
+        faulty(2, 0, "lay 1;");
+        faulty(2, 4, "one pxain 1 1 1 1;");
         faulty(2, 0, "la 1;");
         faulty(2, 0, "plain 1;");
         faulty(2, 1, " oneplain 1 1 1 1;");
@@ -191,6 +217,7 @@ public final class TextTest {
 
     private void promise4Stays() {
         LetsIn x = Check.townOf("law 1;counters 2;" + TWO + "debt 0 1 7;");
+        x.keep(0);
         x.keep(1);
         x.see(1);
         x.sheet(0, 0, 5);
@@ -200,15 +227,60 @@ public final class TextTest {
         check.due("counters stay", 2, x.rule(2));
         check.due("debts stay", 7, x.owes(0, 1));
         check.due("seen stays", 1, x.count(2));
-        check.due("images stay", 1, x.count(3));
+        check.due("images stay", 2, x.count(3));
         check.due("another text", 2, Check.tell(x, TWO));
+        check.due("people in place of what there were", 2, x.rule(0));
         check.due("law in place of what there was", 0, x.rule(1));
         check.due("counters in place of what there were", 1, x.rule(2));
         check.due("debts in place of what there were", 0, x.owes(0, 1));
         check.due("nobody is seen", 0, x.count(2));
         check.due("images are gone", 0, x.count(3));
+        check.due("image 0 is gone", -2, x.back(0));
         check.due("image 1 is gone", -2, x.back(1));
         check.due("sheets are not", 5, x.count(5));
+        check.due("law, counters once in each text", 2, Check.tell(x, "counters 2;law 1;"));
+        check.due("and in each", 2, Check.tell(x, "law 1;counters 2;"));
+        check.due("nobody", 0, x.rule(0));
+        check.due("a text that breaks off", -13, Check.tell(x, "one"));
+        check.due("then a whole one", 1, Check.tell(x, ONE));
+        check.due("with none of the broken one", 1, x.rule(0));
+    }
+
+    private void promise4Cut() {
+        // what was cut off THE TAPE is no part of its last TOKEN
+        cut(-10 - 5, 2, "law 12;;", 5);
+        cut(-10, 2, "law 1;;;", 2);
+        cut(-10 - 3, 2, "lawyer;;", 3);
+        cut(1, 0, "law 1;;;", 6);
+        cut(0, 0, "     law", 5);
+        // THE TAPE full up to its last byte
+        LetsIn x = new LetsIn();
+        StringBuilder text = new StringBuilder("law 1;");
+        while (text.length() < 399) {
+            text.append(' ');
+        }
+        check.due("a name at the last byte", -10 - 399, Check.tell(x, text + "a"));
+        check.due("its fault", 2, x.fault());
+        check.due("a figure at the last byte", -10 - 399, Check.tell(x, text + "1"));
+        check.due("its fault", 2, x.fault());
+        check.due("a blank at the last byte", 1, Check.tell(x, text + " "));
+    }
+
+    private void cut(int want, int fault, String eight, int n) {
+        LetsIn x = new LetsIn();
+        x.feed(Check.eights(eight)[0]);
+        x.end(n);
+        check.due(eight + " cut at " + n, want, x.town());
+        check.due("its fault", fault, x.fault());
+    }
+
+    private void sevenOnes() {
+        LetsIn x = Check.townOf("one son 6 1 1 1 1;" + ONE + ONE + ONE + ONE + ONE + ONE + "debt 6 0 3;debt 1 6 4;");
+        check.due("father", 6, x.one(0, 5));
+        check.due("owes", 3, x.owes(6, 0));
+        check.due("owes", 4, x.owes(1, 6));
+        check.due("no 8th", -1, x.owes(7, 0));
+        check.due("the father is owed nothing by himself", 0, x.must(0, 6));
     }
 
     private void promise5() {
