@@ -435,11 +435,11 @@ public final class LetsIn {
             return BAD;
         }
         Sheet sheet = sheets[k];
-        int found = sheet.faultAsOf(lane);
+        int found = 0;
         int whole = 0;
         while (found == 0 && whole < n) {
             int at = f + 3 * whole;
-            found = sheet.faultOfCells(at, 3);
+            found = sheet.faultAsOf(lane, at, 3);
             if (found == 0) {
                 if (!town.canBeDebt(sheet.cells[at], sheet.cells[at + 1], sheet.cells[at + 2])) {
                     return DEBT_BASE - whole;
@@ -1063,9 +1063,9 @@ public final class LetsIn {
             }
         }
 
-        /** Nothing can be taken as of any lane: only its CELLS can not be had. */
-        int faultAsOf(int asLane) {
-            return isThere() && lane != asLane ? CAST : 0;
+        /** The lane is met where CELLS are asked for, as nothing and an index are: who asks for none meets no FAULT. */
+        int faultAsOf(int asLane, int from, int some) {
+            return isThere() && lane != asLane ? CAST : faultOfCells(from, some);
         }
 
         /** Of some CELLS, from one on. */

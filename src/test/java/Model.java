@@ -756,14 +756,10 @@ final class Model {
         List<int[]> whole = new ArrayList<>();
         int found = 0;
         try {
-            byte[] bytes = lane == 0 ? (byte[]) sheets[k] : null;
-            short[] shorts = lane == 1 ? (short[]) sheets[k] : null;
-            int[] ints = lane == 2 ? (int[]) sheets[k] : null;
             for (int i = 0; i < n; i++) {
                 int[] three = new int[3];
                 for (int j = 0; j < 3; j++) {
-                    int at = f + 3 * i + j;
-                    three[j] = lane == 0 ? bytes[at] : lane == 1 ? shorts[at] : ints[at];
+                    three[j] = cell(sheets[k], lane, f + 3 * i + j);
                 }
                 if (!two(three[0], three[1]) || three[2] < 0 || three[2] > 99) {
                     return -20 - i;
@@ -782,6 +778,15 @@ final class Model {
         }
         torn = found;
         return whole.size();
+    }
+
+    /** The machine itself finds what is wrong with it. */
+    private static int cell(Object sheet, int lane, int at) {
+        switch (lane) {
+            case 0: return ((byte[]) sheet)[at];
+            case 1: return ((short[]) sheet)[at];
+            default: return ((int[]) sheet)[at];
+        }
     }
 
     int torn() {

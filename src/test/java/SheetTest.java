@@ -12,6 +12,7 @@ public final class SheetTest {
         test.promise39();
         test.promise39Bad();
         test.promise39Torn();
+        test.promise39None();
         test.promise40();
         test.promise41();
         test.check.finish();
@@ -202,10 +203,28 @@ public final class SheetTest {
         check.due("cast ahead of index", 3, x.torn());
         check.due("nothing", 0, x.read(0, 1, 99, 1));
         check.due("null ahead of index", 1, x.torn());
-        check.due("no debts of nothing", 0, x.read(0, 1, 0, 0));
-        check.due("no cell was asked for", 0, x.torn());
-        check.due("no debts of another lane", 0, x.read(1, 2, 0, 0));
-        check.due("it is taken as of a lane, though", 3, x.torn());
+    }
+
+    /** Nothing, an index, another lane: each is met only where a DEBT is read. */
+    private void promise39None() {
+        LetsIn x = Check.townOf(THREE + "debt 0 1 50;");
+        x.sheet(1, 1, 3);
+        x.sheet(2, 0, 0);
+        int[][] none = {{0, 0, 0}, {0, 2, 99}, {1, 1, 0}, {1, 1, 99}, {1, 1, -1}, {1, 0, 0}, {1, 2, 99}, {2, 1, 0},
+            {2, 2, Integer.MIN_VALUE}, {2, 0, Integer.MAX_VALUE}};
+        for (int[] of : none) {
+            x.read(1, 0, 0, 1);
+            check.due("another lane", 3, x.torn());
+            check.due("no debts", 0, x.read(of[0], of[1], of[2], 0));
+            check.due("no fault", 0, x.torn());
+        }
+        check.due("debts stay", 50, x.owes(0, 1));
+        check.due("one of the same", 0, x.read(2, 1, 0, 1));
+        check.due("cast", 3, x.torn());
+        check.due("one of the same", 0, x.read(2, 0, 0, 1));
+        check.due("index", 2, x.torn());
+        check.due("one of the same", 0, x.read(0, 0, 0, 1));
+        check.due("null", 1, x.torn());
     }
 
     private void promise40() {
