@@ -7,9 +7,15 @@ final class Check {
     private final String name;
     private int asked;
     private int wrong;
+    private String sentence = "";
 
     Check(String name) {
         this.name = name;
+    }
+
+    /** What the document says, which is asked about from here on: told with each wrong answer. */
+    void says(String sentence) {
+        this.sentence = " (" + sentence + ")";
     }
 
     void due(String call, long want, long got) {
@@ -17,7 +23,7 @@ final class Check {
         if (got != want) {
             wrong++;
             if (wrong <= MOST_TOLD) {
-                System.out.println(name + ": " + call + " answered " + got + ", due is " + want);
+                System.out.println(name + ": " + call + " answered " + got + ", due is " + want + sentence);
             }
         }
     }
