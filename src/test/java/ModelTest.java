@@ -2,8 +2,10 @@ import java.util.Random;
 
 /** Runs of calls drawn by seeds, each answered by LetsIn and by the Model; what they answer must be alike. */
 public final class ModelTest {
-    private static final int RUNS = 150;
+    private static final int RUNS = 200;
     private static final int CALLS = 512;
+    /** A text of 400 bytes is told by 54 calls. */
+    private static final int MOST_AT_ONCE = 60;
     private static final String[] KINDS = {"plain", "payer", "proud", "rich", "son"};
     private static final String SIGNS = "abz019 ;{$~\n";
     private static final String[] WORDS =
@@ -14,6 +16,7 @@ public final class ModelTest {
     private LetsIn x = new LetsIn();
     private Model m = new Model();
     private int people;
+    private int calls;
 
     private ModelTest(Check check, long seed) {
         this.check = check;
@@ -29,14 +32,12 @@ public final class ModelTest {
     }
 
     private void go(int seed) {
-        int calls = 0;
-        while (calls < CALLS - 60) {
+        while (calls < CALLS - MOST_AT_ONCE) {
             int what = random.nextInt(40);
             if (calls == 0 || what == 0) {
-                calls += tell(seed);
+                tell(seed);
             } else {
                 one(seed, what);
-                calls++;
             }
         }
     }
@@ -103,23 +104,20 @@ public final class ModelTest {
         return spoilt.toString();
     }
 
-    private int tell(int seed) {
+    private void tell(int seed) {
         String text = text();
         if (random.nextInt(3) == 0) {
             text = spoilt(text);
         }
-        int calls = 4;
         for (long eight : Check.eights(text)) {
-            check.due(seed + " feed", m.feed(eight), x.feed(eight));
-            calls++;
+            same(seed, "feed", 0, 0, m.feed(eight), x.feed(eight));
         }
         int length = Math.min(text.length(), 400);
-        check.due(seed + " end", m.end(length), x.end(length));
-        check.due(seed + " town " + text, m.town(), x.town());
-        check.due(seed + " fault " + text, m.fault(), x.fault());
+        same(seed, "end", length, 0, m.end(length), x.end(length));
+        same(seed, "town " + text, 0, 0, m.town(), x.town());
+        same(seed, "fault " + text, 0, 0, m.fault(), x.fault());
         people = m.rule(0);
-        check.due(seed + " rule(0)", people, x.rule(0));
-        return calls;
+        same(seed, "rule", 0, 0, people, x.rule(0));
     }
 
     private void one(int seed, int what) {
@@ -198,6 +196,7 @@ public final class ModelTest {
     }
 
     private void same(int seed, String call, int a, int b, int want, int got) {
+        calls++;
         check.due(seed + " " + call + "(" + a + ", " + b + ", ..)", want, got);
     }
 }

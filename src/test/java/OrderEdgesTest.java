@@ -226,6 +226,15 @@ public final class OrderEdgesTest {
         x.sheet(0, 0, 3);
         x.lay(0, 1, 1);
         check.due("read: no debt can be", -20, x.read(0, 0, 0, 1));
+        check.says("nobody there, behind a town without an ORDER");
+        Check.tell(x, "one rich 0 1 1 1;one rich 0 1 1 1;one rich 0 1 1 1;");
+        shop(x, NONE, NONE, NONE, NONE);
+        orders(x, 0, NONE, NONE, NONE);
+        check.due("rings", 7, x.rings());
+        Check.tell(x, "");
+        shop(x, 0);
+        orders(x, 1);
+        check.due("rings", 0, x.rings());
     }
 
     private void seven() {

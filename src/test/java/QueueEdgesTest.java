@@ -68,10 +68,10 @@ public final class QueueEdgesTest {
         must(x, 0, 1, 0);
         must(x, 1, 0, 1);
         for (int v = 0; v <= 99; v++) {
-            x.debt(0, 1, 50);
-            x.debt(1, 0, v);
-            must(x, 0, 1, v < 50 ? 1 : 0);
-            must(x, 1, 0, v > 50 ? 1 : 0);
+            LetsIn even = Check.townOf("law 1;" + ONE + ONE + "debt 0 1 50;");
+            even.debt(1, 0, v);
+            must(even, 0, 1, v < 50 ? 1 : 0);
+            must(even, 1, 0, v > 50 ? 1 : 0);
         }
         x.debt(0, 1, 0);
         x.debt(1, 0, 0);

@@ -6,8 +6,9 @@ import java.util.Random;
 
 /** Calls with any numbers in any state: none throws, and none answers below what the document has. */
 public final class WildTest {
-    private static final int RUNS = 150;
-    private static final int CALLS = 512;
+    private static final int RUNS = 250;
+    /** With the texts that are told between them they stay within 512. */
+    private static final int CALLS = 300;
     private static final int LEAST = -10 - 400;
     private static final int[] EDGES = {Integer.MIN_VALUE, Integer.MIN_VALUE + 9, -129, -20, -10, -2, -1, 0, 1, 2, 3, 4,
         5, 6, 7, 8, 9, 10, 11, 13, 14, 16, 17, 39, 40, 41, 50, 51, 60, 61, 99, 100, 127, 128, 130, 131, 255, 392, 400,
