@@ -25,8 +25,8 @@ public final class LetsIn {
     private static final int FAULT_BASE = -10;
     private static final int DEBT_BASE = -20;
 
-    private final Tape tape = new Tape();
-    private final Reader reader = new Reader(tape);
+    private final Reader reader = new Reader();
+    private final Tape tape = reader.tape;
     private final Town town = new Town();
     private final Town[] images = new Town[IMAGES];
     private final boolean[] kept = new boolean[IMAGES];
@@ -1122,19 +1122,15 @@ public final class LetsIn {
         private static final int NOT_AGAIN = 4, TOO_MANY = 5, NOBODY = 6;
         private static final int NAME = 1, NUMBER = 2, STOP = 3, END = 4;
 
+        final Tape tape = new Tape();
         final Town draft = new Town();
         int fault;
-        private final Tape tape;
         private int at;
         private int sort;
         private int start;
         private int value;
         private boolean lawTold;
         private boolean countersTold;
-
-        Reader(Tape tape) {
-            this.tape = tape;
-        }
 
         /** How many lines; FAULT_BASE less the place of the FAULT. */
         int readTown() {

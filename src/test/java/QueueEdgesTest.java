@@ -26,6 +26,7 @@ public final class QueueEdgesTest {
         test.latestRun();
         test.poor();
         test.row();
+        test.rowOfKinds();
         test.check.finish();
     }
 
@@ -489,5 +490,36 @@ public final class QueueEdgesTest {
         stands(z, 1, 0);
         z.law(1);
         stands(z, 0, 1);
+    }
+
+    private void rowOfKinds() {
+        check.says("THE ROW: rich ones go ahead of all, of rich ones, too; nobody lets in a proud one");
+        // 5 is a son of 0, who OWES 6
+        String people = "one plain 0 1 1 1;one rich 1 1 1 1;one plain 2 1 1 1;one rich 3 1 1 1;one proud 4 1 1 1;"
+                + "one son 0 5 1 1 1;one plain 6 1 1 1;debt 0 6 3;debt 2 4 9;";
+        LetsIn x = Check.townOf(people);
+        stands(x, 3, 1, 0, 2, 4, 6, 5);
+        x.debt(4, 6, 1);
+        stands(x, 3, 1, 0, 2, 6, 4, 5);
+        x.debt(2, 6, 1);
+        stands(x, 3, 1, 6, 0, 2, 4, 5);
+        x.debt(1, 6, 1);
+        stands(x, 3, 6, 1, 0, 2, 4, 5);
+        check.says("LAW 1: a rich one all the same; a FATHER's DEBT against what the other OWES his son");
+        x.law(1);
+        stands(x, 3, 6, 1, 0, 2, 4, 5);
+        x.debt(6, 5, 3);
+        stands(x, 3, 1, 0, 2, 4, 5, 6);
+        x.debt(5, 6, 1);
+        stands(x, 3, 6, 1, 0, 2, 4, 5);
+        check.says("in THE RUN, too, of those who wait");
+        LetsIn y = Check.townOf("one plain 0 9 1 1;one rich 1 1 1 1;one plain 2 1 1 1;one rich 3 1 1 1;one proud 4 1 1 1;"
+                + "one son 6 5 1 1 1;one plain 6 1 1 1;debt 2 4 9;debt 6 3 1;");
+        waiting(y, 1, 1);
+        waiting(y, 2, 1, 2);
+        waiting(y, 3, 3, 1, 2);
+        waiting(y, 4, 3, 1, 2, 4);
+        waiting(y, 6, 3, 1, 2, 4, 5, 6);
+        served(y, 0, 10, 11, 9, 12, 13, 14);
     }
 }

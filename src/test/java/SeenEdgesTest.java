@@ -21,6 +21,7 @@ public final class SeenEdgesTest {
         test.dayByItself();
         test.images();
         test.imagesAreApart();
+        test.imagesOfMuch();
         test.check.finish();
     }
 
@@ -362,5 +363,33 @@ public final class SeenEdgesTest {
         x.debt(0, 1, 0);
         check.due("back", 2, x.back(1));
         check.due("owes", 33, x.owes(0, 1));
+    }
+
+    private void imagesOfMuch() {
+        check.says("IMAGE k is PEOPLE, DEBTS: with all that they have and OWE, above 50 and 99, too");
+        LetsIn x = Check.townOf("one plain 1 1 1 50;one son 0 2 2 2 50;one rich 60 9 9 50;");
+        for (int i = 1; i <= 10; i++) {
+            x.debt(0, 1, 99);
+            check.due("sell", 99 * i, x.sell(0, 1, 2));
+        }
+        check.due("lend", 999, x.lend(2, 0, 9));
+        check.due("lend", 50, x.lend(1, 0, 50));
+        x.keep(0);
+        check.due("pay", 50, x.pay(0, 1));
+        check.due("sell", 0, x.sell(0, 2, 0));
+        check.due("lend", 1, x.lend(0, 2, 1));
+        x.comes(2, 0);
+        check.due("back", 3, x.back(0));
+        int[][] ones = {{0, 1, 1, 1, 109, NONE}, {4, 2, 2, 2, 0, 0}, {3, 60, 9, 9, 41, NONE}};
+        for (int p = 0; p < 3; p++) {
+            for (int what = 0; what < 6; what++) {
+                check.due("one(" + p + ", " + what + ")", ones[p][what], x.one(p, what));
+            }
+        }
+        check.due("owes", 999, x.owes(0, 2));
+        check.due("owes", 50, x.owes(0, 1));
+        check.due("owes", 0, x.owes(2, 0));
+        check.due("debts", 2, x.count(0));
+        check.due("summed", 1049, x.count(1));
     }
 }
