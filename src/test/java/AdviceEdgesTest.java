@@ -330,6 +330,14 @@ public final class AdviceEdgesTest {
                 + "debt 0 3 50;");
         z.pay(0, 3);
         buy(z, 3, 10, 20, 99);
+        check.says("he gives them to whom it was OWED, who has them with his own");
+        for (int own = 3; own <= 5; own++) {
+            // the payer 1 OWES 3 13: with the 9 that 3 gives him he can pay that from 4 of his own on
+            LetsIn y = Check.townOf("one plain 0 5 0 9;one payer 1 4 0 " + own + ";one plain 2 2 0 9;one plain 3 1 0 9;"
+                    + "debt 1 3 13;debt 2 1 9;");
+            check.due("now", 8, y.waits(3));
+            buy(y, 3, own >= 4 ? 6 : 2, 21, 9);
+        }
         check.says("he gives them to whom it was OWED, and it is OWED to him: by law 1 with what he was OWED");
         LetsIn w = standing("law 1;");
         w.debt(3, 2, 7);
